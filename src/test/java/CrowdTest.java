@@ -12,6 +12,7 @@ public final class CrowdTest {
         seating();
         rows();
         judge();
+        judgeFull();
         order();
         orderRefusals();
         due.end();
@@ -192,6 +193,25 @@ public final class CrowdTest {
         x.alterRow(0, 2, 3);
         x.alterRow(1, 2, 7);
         due.is("the BOAT has more than there are", x.judge(), -102);
+    }
+
+    private static void judgeFull() {
+        HalfBoats x = new HalfBoats();
+        for (int i = 0; i < 10; i++) {
+            x.group(1, 0, 0, 0);
+        }
+        for (int i = 0; i < 8; i++) {
+            x.boat(2, 0, 0, 1);
+        }
+        due.is("ten ROWS", x.seat(), 10);
+        due.is("ten", x.judge(), 10);
+        int[][] cases = {{9, 0, 10, -109}, {9, 0, 11, -109}, {9, 0, Integer.MAX_VALUE, -109}, {9, 0, Integer.MIN_VALUE, -109}, {9, 1, 8, -109},
+            {9, 1, 9, -109}, {9, 1, Integer.MAX_VALUE, -109}, {9, 1, 7, 10}};
+        for (int[] c : cases) {
+            int was = x.alterRow(c[0], c[1], c[2]);
+            due.is("judge, row " + c[0] + ", " + c[1] + " as " + c[2], x.judge(), c[3]);
+            x.alterRow(c[0], c[1], was);
+        }
     }
 
     private static void order() {

@@ -218,6 +218,23 @@ public final class HullTest {
         due.is("many(1)", x.many(1), 16);
     }
 
+    private static void explainedAndSunk() {
+        HalfBoats x = sinking();
+        x.minutes(4);
+        int[] water = new int[4];
+        for (int i = 0; i < 4; i++) {
+            water[i] = x.cell(i, 0);
+            x.sounding(i, 4, water[i], water[i]);
+        }
+        due.is("SUNK herself", x.sunk(), 4);
+        due.is("the four holes", x.explained(0), 15);
+        due.is("their rate", x.explained(1), 9);
+        x.sounding(2, 60, water[2], water[2]);
+        due.is("WATER stays as it is from MINUTE 4 on", x.explained(0), 15);
+        x.sounding(2, 59, water[2] + 1, 999);
+        due.is("and is no more", x.explained(0), HalfBoats.NONE);
+    }
+
     private static void explained() {
         HalfBoats x = new HalfBoats();
         due.is("what -1", x.explained(-1), HalfBoats.BAD);
@@ -246,6 +263,7 @@ public final class HullTest {
         due.is("BAD ahead of NONE", x.explained(2), HalfBoats.BAD);
         x.again();
         due.is("again", x.explained(0), 16);
+        explainedAndSunk();
         HalfBoats y = new HalfBoats();
         y.sounding(0, 1, 36, 36);
         y.sounding(7, 1, 36, 36);
