@@ -280,7 +280,7 @@ public final class HalfBoats {
             return BAD;
         }
         int ships = sea.shipsOf(light);
-        return Integer.bitCount(ships) == 1 ? Integer.numberOfTrailingZeros(ships) : NONE;
+        return Integer.bitCount(ships) == 1 ? lowestBit(ships) : NONE;
     }
 
     // ---- lists, words
@@ -561,6 +561,14 @@ public final class HalfBoats {
         return v >= 0 && v <= LAST_MINUTE;
     }
 
+    private static int lowestBit(int bits) {
+        int i = 0;
+        while (i < 31 && (bits >> i & 1) == 0) {
+            i++;
+        }
+        return i;
+    }
+
     private static void copy(int[] from, int[] to) {
         System.arraycopy(from, 0, to, 0, Math.min(from.length, to.length));
     }
@@ -825,25 +833,18 @@ public final class HalfBoats {
             known = true;
             trial.copyFrom(hull);
             for (int few = 0; few <= Hull.CELLS; few++) {
-                if (explainBy(few, trial)) {
-                    return;
+                for (int r = 1; r <= 9; r++) {
+                    for (int bits = 0; bits < 1 << Hull.CELLS; bits++) {
+                        if (Integer.bitCount(bits) == few && holds(trial, bits, r)) {
+                            holes = bits;
+                            rate = r;
+                            return;
+                        }
+                    }
                 }
             }
             holes = NONE;
             rate = NONE;
-        }
-
-        private boolean explainBy(int few, Hull trial) {
-            for (int r = 1; r <= 9; r++) {
-                for (int bits = 0; bits < 1 << Hull.CELLS; bits++) {
-                    if (Integer.bitCount(bits) == few && holds(trial, bits, r)) {
-                        holes = bits;
-                        rate = r;
-                        return true;
-                    }
-                }
-            }
-            return false;
         }
 
         private boolean holds(Hull trial, int bits, int r) {
@@ -1043,7 +1044,7 @@ public final class HalfBoats {
          * another BOAT, too.
          */
         int mostSeated() {
-            int least = Integer.MAX_VALUE;
+            int least = seatSum[(1 << boats) - 1];
             for (int x = 0; x < 1 << boats; x++) {
                 int sum = seatSum[x];
                 for (int g = 0; g < groups; g++) {
@@ -1157,7 +1158,7 @@ public final class HalfBoats {
                 return;
             }
             if (depth == ordered - 1) {
-                picked[depth] = Integer.numberOfTrailingZeros(left);
+                picked[depth] = lowestBit(left);
                 best = bound;
                 copy(picked, bestOrder);
                 return;
@@ -1531,10 +1532,15 @@ public final class HalfBoats {
             fault = NO_FAULT;
             rules.openSlot();
             for (int i = 0; i <= Rules.LINES && token[at] != END && fault == NO_FAULT; i++) {
-                if (i == Rules.LINES) {
-                    failHere();
+                int first = i < Rules.LINES ? token[at] : OTHER_WORD;
+                if (first == SEATS) {
+                    readSeats(rules);
+                } else if (first == FIRST) {
+                    readFirst(rules);
+                } else if (first == COME) {
+                    readCome(rules);
                 } else {
-                    readLine(rules);
+                    failHere();
                 }
             }
             return fault;
@@ -1636,7 +1642,8 @@ public final class HalfBoats {
 
         private boolean takeToken(int what) {
             if (token[at] != what || what == END) {
-                return failHere();
+                fault = begin[at];
+                return false;
             }
             at++;
             return true;
@@ -1645,50 +1652,35 @@ public final class HalfBoats {
         /** A NUMBER of least or more, or NO_NUMBER behind a FAULT. */
         private int takeNumber(int least) {
             if (token[at] != NUMBER || value[at] < least) {
-                failHere();
+                fault = begin[at];
                 return NO_NUMBER;
             }
             at++;
             return value[at - 1];
         }
 
-        private boolean readLine(Rules rules) {
-            switch (token[at]) {
-                case SEATS:
-                    at++;
-                    return readSeats(rules);
-                case FIRST:
-                    at++;
-                    return readFirst(rules);
-                case COME:
-                    at++;
-                    return readCome(rules);
-                default:
-                    return failHere();
-            }
-        }
-
-        private boolean readSeats(Rules rules) {
+        private void readSeats(Rules rules) {
+            at++;
             int a = takeNumber(0);
             if (a == NO_NUMBER || !takeToken(FOR)) {
-                return false;
+                return;
             }
             int b = takeNumber(1);
-            if (b == NO_NUMBER || !takeToken(';')) {
-                return false;
+            if (b != NO_NUMBER && takeToken(';')) {
+                rules.addLine(Rules.SEATS, a, b);
             }
-            rules.addLine(Rules.SEATS, a, b);
-            return true;
         }
 
-        private boolean readFirst(Rules rules) {
+        private void readFirst(Rules rules) {
+            at++;
             int had = 0;
             int ranks = Rules.NO_RANKS;
             // One round more than there are KINDS: a fourth one was had in any case.
             for (int place = 0; place <= 3; place++) {
                 int kind = token[at] - CHILDREN;
                 if (!within(kind, 0, 2) || (had >> kind & 1) == 1) {
-                    return failHere();
+                    failHere();
+                    return;
                 }
                 at++;
                 had |= 1 << kind;
@@ -1699,20 +1691,17 @@ public final class HalfBoats {
                 }
                 at++;
             }
-            if (!takeToken(';')) {
-                return false;
+            if (takeToken(';')) {
+                rules.addLine(Rules.FIRST, ranks, 0);
             }
-            rules.addLine(Rules.FIRST, ranks, 0);
-            return true;
         }
 
-        private boolean readCome(Rules rules) {
+        private void readCome(Rules rules) {
+            at++;
             int first = rules.stepsSoFar();
-            if (!takeToken(IF) || !readCondition(rules, 0) || !takeToken(';')) {
-                return false;
+            if (takeToken(IF) && readCondition(rules, 0) && takeToken(';')) {
+                rules.addLine(Rules.COME, first, rules.stepsSoFar());
             }
-            rules.addLine(Rules.COME, first, rules.stepsSoFar());
-            return true;
         }
 
         private boolean readCondition(Rules rules, int open) {
