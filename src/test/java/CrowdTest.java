@@ -13,7 +13,9 @@ public final class CrowdTest {
         rows();
         judge();
         judgeFull();
+        judgeRise();
         order();
+        orderByNumbers();
         orderRefusals();
         due.end();
     }
@@ -214,6 +216,22 @@ public final class CrowdTest {
         }
     }
 
+    private static void judgeRise() {
+        HalfBoats x = new HalfBoats();
+        x.group(10, 0, 0, 0);
+        x.boat(5, 0, 0, 1);
+        x.boat(5, 0, 0, 1);
+        x.boat(9, 0, 0, 1);
+        due.is("two ROWS", x.seat(), 2);
+        x.alterRow(0, 1, 2);
+        due.is("BOAT 1 behind BOAT 2", x.judge(), -101);
+        x.alterRow(1, 1, 2);
+        x.alterRow(1, 2, 4);
+        due.is("BOAT 2 behind BOAT 2", x.judge(), -101);
+        x.alterRow(0, 1, 1);
+        due.is("BOAT 2 behind BOAT 1", x.judge(), 9);
+    }
+
     private static void order() {
         HalfBoats x = new HalfBoats();
         x.group(10, 1, 0, 15);
@@ -247,6 +265,29 @@ public final class CrowdTest {
         due.is("what 6", y.order(63, 1, 6), HalfBoats.NONE);
         due.is("READINGS as they are", y.group(9, 2, 3, 0), 6);
         due.is("no men", y.order(8, 30, -1), 50 - 10);
+    }
+
+    private static void orderByNumbers() {
+        // Three GROUPS come to their BOATS only if these are LOWERED last: no order seats all 35.
+        HalfBoats x = new HalfBoats();
+        x.group(10, 0, 0, 30);
+        x.group(10, 0, 1, 30);
+        x.group(5, 0, 2, 30);
+        x.group(10, 0, 3, 0);
+        x.boat(10, 0, 0, 0);
+        x.boat(10, 1, 0, 0);
+        x.boat(5, 2, 0, 0);
+        x.boat(10, 3, 0, 0);
+        due.is("ten as the last, ten in any case", x.order(7, 10, -1), 20);
+        int[] want = {0, 2, 1};
+        for (int i = 0; i < 3; i++) {
+            due.is("the first by numbers with which BOAT 0 or 1 is last, " + i, x.order(7, 10, i), want[i]);
+        }
+        due.is("with all four", x.order(15, 8, -1), 20);
+        int[] four = {0, 2, 3, 1};
+        for (int i = 0; i < 4; i++) {
+            due.is("the first by numbers of four, " + i, x.order(15, 8, i), four[i]);
+        }
     }
 
     private static void orderRefusals() {

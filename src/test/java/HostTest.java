@@ -29,7 +29,9 @@ public final class HostTest {
         for (int sort = 0; sort <= 4; sort++) {
             due.is("sheet", x.sheet(0, sort, 40), 1);
             due.is("all 0", x.item(0, sort, 39), 0);
+            due.is("all 0", x.item(0, sort, 0), 0);
             due.is("put", x.put(0, 39, 300), 1);
+            due.is("put", x.put(0, 0, 300), 1);
         }
         due.is("n 0", x.sheet(0, 4, 0), 1);
         due.is("no item", x.item(0, 4, 0), -12);

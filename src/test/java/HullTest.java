@@ -194,6 +194,29 @@ public final class HullTest {
         x.wall(0, 0);
         due.is("as if the wall were so", x.sinks(-1, 7), low);
         due.is("as if it were high", x.sinks(0, 100), free);
+        HalfBoats late = new HalfBoats();
+        for (int i = 0; i < 5; i++) {
+            late.minutes(199);
+        }
+        for (int i = 0; i < 4; i++) {
+            late.set(i, 0, 999);
+            late.set(i, 1, 9);
+        }
+        due.is("in MINUTE 999", late.sinks(-1, 0), 999);
+        late.keep();
+        for (int i = 0; i < 4; i++) {
+            late.set(i, 1, 0);
+        }
+        late.minutes(1);
+        for (int i = 0; i < 4; i++) {
+            late.set(i, 1, 9);
+        }
+        due.is("not by MINUTE 999", late.sinks(-1, 0), HalfBoats.NONE);
+        late.minutes(3);
+        due.is("not in MINUTE 999", late.sinks(-1, 0), HalfBoats.NONE);
+        late.again();
+        late.minutes(4);
+        due.is("sunk in MINUTE 999", late.sunk(), 999);
         HalfBoats y = sinking();
         int when = y.sinks(-1, 0);
         for (int i = 1; i <= when; i++) {
@@ -271,5 +294,12 @@ public final class HullTest {
         due.is("rate 9", y.explained(1), 9);
         y.set(0, 0, 30);
         due.is("no ROOM for it", y.explained(0), HalfBoats.NONE);
+        HalfBoats z = new HalfBoats();
+        z.sounding(4, 60, 1, 999);
+        due.is("in MINUTE 60", z.explained(0), 16);
+        for (int i = 0; i < 8; i++) {
+            z.sounding(i, 1, 1, 999);
+        }
+        due.is("all CELLS", z.explained(0), 255);
     }
 }

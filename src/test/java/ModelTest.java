@@ -2,6 +2,7 @@ import java.lang.reflect.InvocationTargetException;
 import java.lang.reflect.Method;
 import java.util.ArrayList;
 import java.util.Arrays;
+import java.util.Collections;
 import java.util.Comparator;
 import java.util.List;
 import java.util.Random;
@@ -11,6 +12,12 @@ public final class ModelTest {
     private static final String[] TOKENS = {"seats", "for", "first", "then", "come", "if", "or", "and", "not", "heard", "far", "speed", "minute", "children",
         "women", "men", "(", ")", "<", "=", ">", ";", "0", "7", "30", "999", "1000", "x", "-", "\u00ff", "or", "and", "not", "(", ")", ";"};
     private static final int[] EDGES = {Integer.MIN_VALUE, -1000000, -3, -2, -1, 0, 1, 2, 8, 9, 10, 60, 61, 100, 101, 999, 1000, 999999, Integer.MAX_VALUE};
+
+    /** Parts of the face that are often used together, without much else. */
+    private static final String[] PARTS = {"minutes minutes set set set wall door cell cell sunk sinks sounding many keep again",
+        "way group boat most seat judge alterRow row order order order reach can minutes", "ship ready call hears comes light mayBe sure",
+        "list names sworn takeBack standing minutes keep again", "feed read version lack rank must must must ship call minutes boat set", "leg run run run",
+        "sheet put item sound shelf taken act act trace boat call light sworn set many keep again"};
 
     private static int wrong = 0;
     private static long asked = 0;
@@ -22,6 +29,9 @@ public final class ModelTest {
             .sorted(Comparator.comparing(Method::getName)).toArray(Method[]::new);
         for (int i = 0; i < runs && wrong < 10; i++) {
             run(face, new Random(seed * 100000L + i));
+            if (i % 8 == 0) {
+                explain(face, new Random(seed * 100000L + i));
+            }
         }
         System.out.println("ModelTest: " + asked + " answers, " + wrong + " not as due");
         if (wrong != 0) {
@@ -33,17 +43,13 @@ public final class ModelTest {
         HalfBoats x = new HalfBoats();
         Model y = new Model();
         List<String> log = new ArrayList<>();
-        // Most runs stay with a part of the face, so that its parts grow full; wrong numbers are rare or common.
-        int some = 4 + r.nextInt(face.length - 3);
-        List<Method> chosen = new ArrayList<>(Arrays.asList(face));
-        java.util.Collections.shuffle(chosen, r);
-        chosen = chosen.subList(0, some);
+        List<Method> chosen = choose(face, r);
         int wild = r.nextInt(4) == 0 ? 4 : 40;
         int dear = 0;
         for (int i = 0; i < 500; i++) {
-            Method m = chosen.get(r.nextInt(some));
+            Method m = chosen.get(r.nextInt(chosen.size()));
             boolean isDear = List.of("explained", "order", "run", "seat", "sinks").contains(m.getName());
-            if (isDear && dear++ > 12) {
+            if (isDear && dear++ > (m.getName().equals("explained") ? 4 : 40)) {
                 continue;
             }
             if (m.getName().equals("feed") && r.nextInt(3) > 0) {
@@ -61,6 +67,67 @@ public final class ModelTest {
                 for (int i = 0; i < 90; i++) {
                     ask(m, new Object[] {i / 3, i % 3}, x, y, log);
                 }
+            }
+        }
+    }
+
+    /** Either some of the face, or a part of it; so that some things grow full. */
+    private static List<Method> choose(Method[] face, Random r) {
+        if (r.nextBoolean()) {
+            List<Method> some = new ArrayList<>(Arrays.asList(face));
+            Collections.shuffle(some, r);
+            return some.subList(0, 4 + r.nextInt(face.length - 3));
+        }
+        List<Method> part = new ArrayList<>();
+        for (String name : PARTS[r.nextInt(PARTS.length)].split(" ")) {
+            for (Method m : face) {
+                if (m.getName().equals(name)) {
+                    part.add(m);
+                }
+            }
+        }
+        return part;
+    }
+
+    /** SOUNDINGS as some HOLES would give them, or nearly so: THE EXPLANATION need not be those HOLES. */
+    private static void explain(Method[] face, Random r) throws Exception {
+        HalfBoats x = new HalfBoats();
+        Model y = new Model();
+        List<String> log = new ArrayList<>();
+        for (int i = 0; i < 8; i++) {
+            ask("set", face, x, y, log, i, 0, r.nextInt(3) == 0 ? 100 : 10 + r.nextInt(700));
+            ask("set", face, x, y, log, i, 2, Math.max(0, r.nextInt(9) - 6));
+            if (i < 7) {
+                ask("wall", face, x, y, log, i, r.nextInt(3) == 0 ? 100 : r.nextInt(101));
+                ask("door", face, x, y, log, i, r.nextInt(6) == 0);
+            }
+        }
+        Model.Kept truth = y.k.copy();
+        int holes = r.nextInt(256) & r.nextInt(256);
+        int rate = 1 + r.nextInt(9);
+        for (int i = 0; i < 8; i++) {
+            truth.hole[i] = (holes >> i & 1) * rate;
+        }
+        int last = 1 + r.nextInt(60);
+        int spare = r.nextInt(4);
+        for (int m = 0; m <= last; m++) {
+            for (int i = 0; i < 8; i++) {
+                if (r.nextInt(last) == 0 || (m == last && r.nextBoolean())) {
+                    int from = Math.max(0, truth.water[i] - r.nextInt(1 + spare));
+                    int to = Math.min(999, truth.water[i] + r.nextInt(1 + spare));
+                    ask("sounding", face, x, y, log, i, m, from, to);
+                }
+            }
+            truth.minute();
+        }
+        ask("explained", face, x, y, log, 0);
+        ask("explained", face, x, y, log, 1);
+    }
+
+    private static void ask(String name, Method[] face, HalfBoats x, Model y, List<String> log, Object... numbers) throws Exception {
+        for (Method m : face) {
+            if (m.getName().equals(name)) {
+                ask(m, numbers, x, y, log);
             }
         }
     }
@@ -118,7 +185,7 @@ public final class ModelTest {
             case "sounding": return new int[] {0, 7, 0, 20, 0, 30, 20, 120};
             case "explained": return new int[] {0, 1};
             case "way": return new int[] {0, 7, 0, 7, 1, 20, 0, 60};
-            case "group": return new int[] {1, 50, 0, 2, 0, 7, 0, 60};
+            case "group": return new int[] {1, 50, 0, 2, 0, 7, 0, 90};
             case "reach": return new int[] {0, y.k.groups.size(), 0, 7};
             case "boat": return new int[] {1, 65, 0, 7, 0, 120, 0, 1};
             case "can": return new int[] {0, y.k.groups.size()};

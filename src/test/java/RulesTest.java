@@ -6,6 +6,7 @@ public final class RulesTest {
         feed();
         reads();
         faults();
+        faultsInARow();
         full();
         versions();
         lack();
@@ -55,10 +56,10 @@ public final class RulesTest {
         String[] texts = {"^;", "^x", "^Seats 1 for 2;", "^sea", "^seatss 1 for 2;", "seats^", "seats ^;", "seats ^for", "seats 1^", "seats 1 ^2",
             "seats ^1000 for 2;", "seats 1 for ^0;", "seats 1 for ^000;", "seats 1 for ^1234;", "seats 1 for 2^", "seats 1 for 2 ^:", "seats 1 for 2;^3",
             "first ^;", "first^", "first men^", "first men ^women", "first men then ^men;", "first men then women then children then ^men;",
-            "first men then women then children then^", "first men then women then children then ^;", "first ^heard;", "first men then ^child;",
+            "first men then women then children then^", "first men then women then children then ^;", "first ^heard;", "first men then ^child;", "first ^menz;", "first ^amen;",
             "come ^heard;", "come if^", "come if ^;", "come if heard^", "come if heard ^heard", "come if heard or ^;", "come if heard and ^or heard;",
             "come if not ^;", "come if not^", "come if ^)", "come if (heard^;", "come if (heard ^", "come if heard^);", "come if ((heard)^;",
-            "come if ((((^(heard)))));", "come if ((((heard)))) and ((((not ^(far<1)))));", "come if far ^1;", "come if far<^;",
+            "come if ((((^(heard)))));", "come if ((((heard)))) and ((((not ^(far<1)))));", "come if far ^1;", "come if far<^;", "come if far^?1;", "come if far^;1;",
             "come if far<^1000;", "come if far<^-1;", "come if far<^=1;", "come if minute<^", "come if speed ^speed<1;", "come if heard;^;",
             "come if far^1<2;", "come if^\tfar<2;", "come if heard ; ^then", "come ^iffar<1;", "come if far<1 ^2;",
             "first men;first men;first men;first men;first men;first men;first men;first men;^first men;",
@@ -72,6 +73,19 @@ public final class RulesTest {
             due.is("no VERSION", x.many(9), 0);
             due.is("used up", x.many(12), 0);
         }
+    }
+
+    /** What texts with a FAULT leave behind takes no room from the next one. */
+    private static void faultsInARow() {
+        HalfBoats x = new HalfBoats();
+        x.ship(5053, 7, 999, 5);
+        String open = "first men;come if heard or heard or heard or heard or heard or heard or heard or heard or heard";
+        for (int i = 0; i < 20; i++) {
+            due.is("a long fault", Due.read(x, open), -100 - open.length());
+        }
+        due.is("read", Due.read(x, "come if far=4 or not far=3;come if far=4;come if heard or far=3;"), 0);
+        due.is("lines", x.version(0, 0), 3);
+        due.is("must", x.must(0, 0), 1);
     }
 
     private static void full() {

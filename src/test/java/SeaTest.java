@@ -69,6 +69,12 @@ public final class SeaTest {
         due.is("980 / 1", x.comes(1), 10 + 980);
         x.ready(60);
         due.is("above 999", x.comes(1), 10 + 60 + 980);
+        HalfBoats z = new HalfBoats();
+        z.ship(5050, 3, 999999, 0);
+        z.call(998);
+        due.is("ears on in MINUTE 999 alone", z.comes(0), HalfBoats.NONE);
+        z.call(999);
+        due.is("then", z.comes(0), 1009);
         HalfBoats y = new HalfBoats();
         y.ship(5050, 3, 999, 0);
         y.call(999);
