@@ -294,6 +294,9 @@ public final class HullTest {
         due.is("rate 9", y.explained(1), 9);
         y.set(0, 0, 30);
         due.is("no ROOM for it", y.explained(0), HalfBoats.NONE);
+        HalfBoats w = new HalfBoats();
+        w.sounding(0, 1, 37, 999);
+        due.is("more than rate 9 gives", w.explained(0), HalfBoats.NONE);
         HalfBoats z = new HalfBoats();
         z.sounding(4, 60, 1, 999);
         due.is("in MINUTE 60", z.explained(0), 16);

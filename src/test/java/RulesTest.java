@@ -53,7 +53,8 @@ public final class RulesTest {
 
     /** The fault is where the ^ stands, which is not part of the text. */
     private static void faults() {
-        String[] texts = {"^;", "^x", "^Seats 1 for 2;", "^sea", "^seatss 1 for 2;", "seats^", "seats ^;", "seats ^for", "seats 1^", "seats 1 ^2",
+        String[] texts = {"^;", "^x", "^Seats 1 for 2;", "^sea", "^seatss 1 for 2;", "seats^", "seats ^;", "seats ^for", "seats ^x for 2;", "seats 1 for ^x;",
+            "seats 1 ^first 2;", "^for 1 for 2;", "^for men;", "^then men;", "^if heard;", "come ^come heard;", "come if far<^x;", "come if heard ^if heard;", "seats 1^", "seats 1 ^2",
             "seats ^1000 for 2;", "seats 1 for ^0;", "seats 1 for ^000;", "seats 1 for ^1234;", "seats 1 for 2^", "seats 1 for 2 ^:", "seats 1 for 2;^3",
             "first ^;", "first^", "first men^", "first men ^women", "first men then ^men;", "first men then women then children then ^men;",
             "first men then women then children then^", "first men then women then children then ^;", "first ^heard;", "first men then ^child;", "first ^menz;", "first ^amen;",
