@@ -519,7 +519,7 @@ public final class HalfBoats {
             case 11: return seating.rows;
             case 12: return reader.size;
             case 13: return acts.traced;
-            case 14: return hull.allWater();
+            case 14: return hull.allWater;
             case 15: return crowd.allPersons();
             default: return BAD;
         }
@@ -642,6 +642,9 @@ public final class HalfBoats {
         final int[] pump = new int[CELLS];
         final int[] height = new int[WALLS];
         final int[] open = new int[WALLS];
+        /** All WATER, and the TILT by it: weighed anew whenever WATER has changed. */
+        int allWater = 0;
+        private int tilt = 0;
         private final int[] level = new int[CELLS];
         private final int[] gain = new int[CELLS];
 
@@ -663,6 +666,7 @@ public final class HalfBoats {
             copy(other.pump, pump);
             copy(other.height, height);
             copy(other.open, open);
+            weigh();
         }
 
         static boolean mayBecome(int what, int v) {
@@ -677,6 +681,7 @@ public final class HalfBoats {
             int was = of[cell];
             of[cell] = v;
             water[cell] = Math.min(water[cell], room[cell]);
+            weigh();
             return was;
         }
 
@@ -688,6 +693,7 @@ public final class HalfBoats {
                 water[i] = 0;
                 hole[i] = (cells >> i & 1) == 1 ? rate : 0;
             }
+            weigh();
         }
 
         int levelOf(int cell) {
@@ -695,15 +701,8 @@ public final class HalfBoats {
         }
 
         int outsideOf(int cell) {
-            return outsideBy(cell, 40 + allWater() / 20, tilt());
-        }
-
-        int allWater() {
-            int all = 0;
-            for (int i = 0; i < CELLS; i++) {
-                all += water[i];
-            }
-            return all;
+            int outside = 40 + allWater / 20 + tilt * (7 - 2 * cell) / 7;
+            return Math.max(0, Math.min(100, outside));
         }
 
         int allRoom() {
@@ -722,39 +721,34 @@ public final class HalfBoats {
             }
             findGains();
             boolean moved = takeGains();
-            int depth = 40 + allWater() / 20;
-            int tilt = tilt();
-            if (outsideBy(0, depth, tilt) == 100 || outsideBy(CELLS - 1, depth, tilt) == 100) {
+            if (outsideOf(0) == 100 || outsideOf(CELLS - 1) == 100) {
                 sunkAt = now;
             }
             return moved;
         }
 
-        private int tilt() {
-            int sum = 0;
+        private void weigh() {
+            int moment = 0;
+            allWater = 0;
             for (int i = 0; i < CELLS; i++) {
-                sum += water[i] * (7 - 2 * i);
+                allWater += water[i];
+                moment += water[i] * (7 - 2 * i);
             }
-            return sum / 100;
-        }
-
-        private static int outsideBy(int cell, int depth, int tilt) {
-            int outside = depth + tilt * (7 - 2 * cell) / 7;
-            return Math.max(0, Math.min(100, outside));
+            tilt = moment / 100;
         }
 
         private void findGains() {
-            int depth = 40 + allWater() / 20;
-            int tilt = tilt();
             for (int i = 0; i < CELLS; i++) {
                 level[i] = levelOf(i);
                 gain[i] = -pump[i];
                 if (hole[i] > 0) {
-                    gain[i] += Math.max(0, hole[i] * (outsideBy(i, depth, tilt) - level[i]) / 10);
+                    gain[i] += Math.max(0, hole[i] * (outsideOf(i) - level[i]) / 10);
                 }
             }
             for (int w = 0; w < WALLS; w++) {
-                passWall(w);
+                if (level[w] != level[w + 1]) {
+                    passWall(w);
+                }
             }
         }
 
@@ -772,9 +766,14 @@ public final class HalfBoats {
         private boolean takeGains() {
             boolean moved = false;
             for (int i = 0; i < CELLS; i++) {
-                int next = Math.max(0, Math.min(room[i], water[i] + gain[i]));
-                moved = moved || next != water[i];
-                water[i] = next;
+                if (gain[i] != 0) {
+                    int next = Math.max(0, Math.min(room[i], water[i] + gain[i]));
+                    moved = moved || next != water[i];
+                    water[i] = next;
+                }
+            }
+            if (moved) {
+                weigh();
             }
             return moved;
         }
