@@ -444,8 +444,7 @@ public final class HalfBoats {
             return BAD;
         }
         int refusal = host.refuseRow(sheet, 0);
-        // No item is asked of a missing SHEET if n is 0.
-        if (refusal == OTHER_SORT || (refusal != 0 && n > 0)) {
+        if (refusal != 0) {
             return refusal;
         }
         int came = 0;

@@ -88,7 +88,12 @@ public final class HostTest {
         due.is("shorts", x.sound(0, 0, 1, 0, 1), -13);
         due.is("shorts, no item", x.sound(0, 0, 1, 9, 0), -13);
         due.is("missing", x.sound(0, 0, 2, 0, 1), -11);
-        due.is("missing, no item asked", x.sound(0, 0, 2, 0, 0), 0);
+        due.is("missing, no item asked", x.sound(0, 0, 2, 0, 0), -11);
+        due.is("BAD ahead of missing", x.sound(8, 0, 2, 0, 0), HalfBoats.BAD);
+        x.sheet(3, 0, 0);
+        due.is("a row of none, no item", x.sound(0, 0, 3, 0, 0), 0);
+        x.sheet(3, -1, 0);
+        due.is("missing again, no item", x.sound(0, 0, 3, 0, 0), -11);
         due.is("no item", x.sound(0, 0, 0, 99, 0), 0);
         due.is("at -1", x.sound(0, 0, 0, -1, 1), -12);
         due.is("far outside", x.sound(0, 0, 0, Integer.MAX_VALUE, 9), -12);

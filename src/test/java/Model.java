@@ -1035,6 +1035,7 @@ final class Model {
         if (out(cell, 0, 7) || out(sheet, 0, 3) || out(n, 0, 9) || out(minute, 0, 60)) return BAD;
         try {
             byte[] row = (byte[]) sheets[sheet];
+            if (row == null) return -11;
             int came = 0;
             for (int j = 0; j < n; j++) {
                 int tons = row[i + j];
