@@ -172,5 +172,18 @@ final class PassageEdges {
             e.bad("no LEG 0", x.run(limit, 0));
         }
         e.bad("LIMIT -1", x.run(-1, -1));
+        x.keep();
+        x.leg(99, 9);
+        x.run(9999, -1);
+        x.again();
+        e.is("none any more: RISK", x.run(0, -1), 0);
+        e.is("none any more: MINUTES", x.run(0, -2), 0);
+        x.leg(1, 0);
+        x.keep();
+        x.leg(99, 9);
+        x.run(9999, -1);
+        x.again();
+        e.is("one is left: RISK", x.run(9999, -1), 0);
+        e.is("one is left: MINUTES", x.run(9999, -2), 3);
     }
 }

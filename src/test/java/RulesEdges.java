@@ -280,6 +280,8 @@ final class RulesEdges {
         fault("first men then ^men;");
         fault("first children then women then ^children;");
         fault("first children then women then men then ^women;");
+        fault("first children then women then men then ^;");
+        fault("first children then women then men then ^then;");
         reads("first men;first men then women;first women then men;", 3);
     }
 
@@ -296,6 +298,11 @@ final class RulesEdges {
             long200.append(' ');
         }
         fault(long200 + "^");
+        fault("come if" + " ".repeat(185) + "far<^1234");
+        fault("seats" + " ".repeat(192) + "123^");
+        fault("seats" + " ".repeat(191) + "^1234");
+        fault("come if" + " ".repeat(188) + "heard^");
+        fault("come if" + " ".repeat(188) + "^heart");
     }
 
     private void versionsAsTold() {
@@ -330,6 +337,13 @@ final class RulesEdges {
         Due.read(x, "");
         e.is("in 9", x.rank(2, 9), 1);
         e.is("an empty TEXT in 10", x.rank(2, 10), 9);
+        HalfBoats y = new HalfBoats();
+        y.ship(5050, 1, 0, 0);
+        Due.read(y, "come if far=0;");
+        y.minutes(1);
+        Due.read(y, "seats 999 for 1;come if far=1;");
+        e.is("older RULES in their MINUTE", y.must(0, 0), 1);
+        e.is("the latest in theirs", y.must(0, 1), 0);
     }
 
     private void lackAsTold() {
@@ -545,6 +559,16 @@ final class RulesEdges {
         e.is("a TEXT behind it", Due.read(x, "come if minute=1;"), 1);
         e.is("has its own LINES alone", x.version(1, 0), 1);
         e.is("and no seats", x.lack(1), 0);
+        HalfBoats y = new HalfBoats();
+        y.ship(5050, 1, 0, 0);
+        e.is("a FAULT behind come LINES", Due.read(y, "come if far=0;come if far=0;come"), -132);
+        e.is("a TEXT behind it", Due.read(y, "come if far=1;"), 0);
+        e.is("no LINE of the FAULT bids", y.must(0, 0), 0);
+        for (int i = 0; i < 20; i++) {
+            Due.read(y, "come if far=1 or far=1 or far=1 or far=1 or far=1 or far=1 or far=1 or far=1");
+        }
+        e.is("a TEXT behind twenty", Due.read(y, "come if far=1 or far=1 or not far=1;"), 1);
+        e.is("is whole", y.must(0, 0), 1);
         StringBuilder signs = new StringBuilder();
         while (signs.length() < 200) {
             signs.append(';');

@@ -184,6 +184,17 @@ final class SeatingEdges {
         x.seat();
         x.again();
         e.is("GROUPS and BOATS that are gone", x.judge(), -100);
+        HalfBoats w = new HalfBoats();
+        for (int i = 0; i < 10; i++) {
+            w.group(1, 0, 0, 0);
+            w.boat(2, 0, 0, 0);
+        }
+        w.seat();
+        for (int v = 8; v <= 12; v++) {
+            int was = w.alterRow(9, v < 10 ? 1 : 0, v);
+            e.is("all GROUPS and BOATS there can be, and " + v, w.judge(), -109);
+            w.alterRow(9, v < 10 ? 1 : 0, was);
+        }
         HalfBoats y = new HalfBoats();
         y.boat(5, 0, 0, 0);
         y.keep();
@@ -484,7 +495,7 @@ final class SeatingEdges {
         e.says("P21", "BAD: a bit of none, no BOAT, LABOUR, what below -1;");
         e.bad("no BOATS there", new HalfBoats().order(1, 1, -1));
         HalfBoats x = six(3);
-        int[][] no = {{8, 1, -1}, {9, 1, -1}, {MIN, 1, -1}, {MAX, 1, -1}, {-1, 1, -1}, {0, 1, -1}, {7, 0, -1}, {7, -1, -1}, {7, 31, -1}, {7, MIN, -1},
+        int[][] no = {{8, 1, -1}, {9, 1, -1}, {MIN, 1, -1}, {MAX, 1, -1}, {-1, 1, -1}, {0, 1, -1}, {0, 1, 0}, {0, 1, MAX}, {8, 1, 9}, {7, 0, -1}, {7, -1, -1}, {7, 31, -1}, {7, MIN, -1},
             {7, MAX, -1}, {7, 1, -2}, {7, 1, MIN}};
         for (int[] n : no) {
             e.bad("order(" + n[0] + ", " + n[1] + ", " + n[2] + ")", x.order(n[0], n[1], n[2]));
