@@ -26,6 +26,7 @@ public final class FaceTest {
     public static void main(String[] args) throws Exception {
         constants();
         face();
+        faceOfDocument();
         inside();
         text();
         due.end();
@@ -59,6 +60,22 @@ public final class FaceTest {
             }
         }
         yes("the face: " + got, got.equals(want));
+    }
+
+    /** FACE, and so the class, is what the document's code block says. */
+    private static void faceOfDocument() throws Exception {
+        String document = Files.readString(Path.of("../shared/DOC.md"));
+        int begin = document.indexOf("```java");
+        String block = document.substring(begin, document.indexOf("```", begin + 7));
+        Set<String> says = new TreeSet<>();
+        Matcher m = Pattern.compile("public int (\\w+)\\(([^)]*)\\);").matcher(block);
+        while (m.find()) {
+            String types = Arrays.stream(m.group(2).split(", *")).map(p -> p.trim().split(" ")[0]).collect(Collectors.joining(","));
+            says.add(m.group(1) + "(" + types + ")");
+        }
+        yes("the document's face: " + says, says.equals(new TreeSet<>(Arrays.asList(FACE.split(" ")))));
+        yes("nothing else is in it", block.split("public ").length - 1 == says.size() + 3);
+        yes("the constants of it", block.contains("public static final int BAD = -1, FULL = -2, NONE = -3, STATE = -4;"));
     }
 
     private static void inside() {
